@@ -1,3 +1,5 @@
+import java.util.ArrayList;
+import java.util.List;
 import java.util.NoSuchElementException;
 
 /** A butcher's shop for words: words are cut into letters, and letters are sold by weight as words. */
@@ -230,38 +232,36 @@ public final class AnagramButcher {
     // ---- Receipts and accounts
 
     public int receiptCount() {
-        return accounts.size();
+        return accounts.receipts.size();
     }
 
     public long receiptWord(int receipt) throws IndexOutOfBoundsException {
-        requireReceipt(receipt);
-        return accounts.word(receipt);
+        return requireReceipt(receipt).word;
     }
 
     public int receiptPrice(int receipt) throws IndexOutOfBoundsException {
-        requireReceipt(receipt);
-        return accounts.paid(receipt);
+        return requireReceipt(receipt).price;
     }
 
     public boolean isReturned(int receipt) throws IndexOutOfBoundsException {
-        requireReceipt(receipt);
-        return accounts.cameBack(receipt);
+        return requireReceipt(receipt).returned;
     }
 
     public int takeBack(int receipt) throws IndexOutOfBoundsException, IllegalStateException {
-        requireReceipt(receipt);
-        if (accounts.cameBack(receipt)) {
+        Receipt shown = requireReceipt(receipt);
+        if (shown.returned) {
             throw new IllegalStateException("the word was returned already");
         }
         incoming.clear();
-        incoming.put(accounts.word(receipt), 1);
+        incoming.put(shown.word, 1);
         requireRoom(incoming);
         stock.pieces.putAll(incoming);
-        return accounts.refund(receipt);
+        accounts.giveBack(shown);
+        return shown.refund();
     }
 
     public int takings() {
-        return accounts.balance();
+        return accounts.balance;
     }
 
     public int cameIn(int letter) throws IllegalArgumentException {
@@ -330,10 +330,11 @@ public final class AnagramButcher {
         }
     }
 
-    private void requireReceipt(int receipt) {
-        if (receipt < 0 || receipt >= accounts.size()) {
+    private Receipt requireReceipt(int receipt) {
+        if (receipt < 0 || receipt >= accounts.receipts.size()) {
             throw new IndexOutOfBoundsException("there is no such receipt");
         }
+        return accounts.receipts.get(receipt);
     }
 
     private static void requireWord(long word) {
@@ -519,7 +520,7 @@ public final class AnagramButcher {
         }
 
         void insert(int index, long word) {
-            if (isFull() || index < 0 || index > count) {
+            if (count >= MOST_WORDS || index < 0 || index > count) {
                 return;
             }
             for (int i = count; i > index; i--) {
@@ -540,9 +541,9 @@ public final class AnagramButcher {
         }
 
         void copy(WordRow other) {
-            clear();
-            for (int i = 0; i < other.size(); i++) {
-                append(other.word(i));
+            count = other.count;
+            for (int i = 0; i < count; i++) {
+                words[i] = other.words[i];
             }
         }
     }
@@ -711,7 +712,6 @@ public final class AnagramButcher {
         void plan(WordRow fitting, long carcass, int most) {
             left.clear();
             left.put(carcass, 1);
-            chosen.clear();
             best.clear();
             bestLetters = 0;
             longest = longestOf(fitting);
@@ -763,57 +763,46 @@ public final class AnagramButcher {
         }
     }
 
+    /** What a sold word's buyer was given. */
+    private static final class Receipt {
+        final long word;
+        final int price;
+        boolean returned;
+
+        Receipt(long word, int price) {
+            this.word = word;
+            this.price = price;
+        }
+
+        int refund() {
+            return price - price / 10;
+        }
+    }
+
     /** The receipts, the money, and the pieces that came in and went out. */
     private static final class Accounts {
         // The document's 512 calls, each of them a spend of 20 words, write no more.
         static final int MOST_RECEIPTS = 512 * MOST_SALES;
 
+        final List<Receipt> receipts = new ArrayList<>();
         final Pile cameIn = new Pile();
         final Pile sold = new Pile();
-        private final long[] words = new long[MOST_RECEIPTS];
-        private final int[] prices = new int[MOST_RECEIPTS];
-        private final boolean[] returned = new boolean[MOST_RECEIPTS];
-        private int count;
-        private int balance;
+        int balance;
 
-        int size() {
-            return count;
-        }
-
-        boolean hasRoomFor(int receipts) {
-            return count + receipts <= MOST_RECEIPTS;
-        }
-
-        int balance() {
-            return balance;
-        }
-
-        long word(int receipt) {
-            return words[receipt];
-        }
-
-        int paid(int receipt) {
-            return prices[receipt];
-        }
-
-        boolean cameBack(int receipt) {
-            return returned[receipt];
+        boolean hasRoomFor(int more) {
+            return receipts.size() + more <= MOST_RECEIPTS;
         }
 
         void writeReceipt(long word, int price) {
-            words[count] = word;
-            prices[count] = price;
-            count++;
+            receipts.add(new Receipt(word, price));
             balance += price;
             sold.put(word, 1);
         }
 
-        int refund(int receipt) {
-            int refund = prices[receipt] - prices[receipt] / 10;
-            returned[receipt] = true;
-            balance -= refund;
-            sold.put(words[receipt], -1);
-            return refund;
+        void giveBack(Receipt receipt) {
+            receipt.returned = true;
+            balance -= receipt.refund();
+            sold.put(receipt.word, -1);
         }
     }
 }

@@ -63,14 +63,15 @@ final class AccountsTest {
     }
 
     private static void takeBackTenths() {
-        AnagramButcher shop = Checks.shop("abcde", "abcdefghij", "abcd", "abcdefghijkl");
-        int[] due = {10 - 1, 20 - 2, 8, 24 - 2};
-        String[] words = {"abcde", "abcdefghij", "abcd", "abcdefghijkl"};
+        AnagramButcher shop = new AnagramButcher();
+        String[] words = {"abcde", "abcdefghij", "abcd", "abcdefghijkl", "abcdefghi"};
+        int[] due = {10 - 1, 20 - 2, 8, 24 - 2, 18 - 1};
         for (int i = 0; i < words.length; i++) {
+            shop.addWord(Checks.word(words[i]));
             shop.cutToOrder(Checks.word(words[i]), 1);
             CHECKS.equal("takeBack of " + words[i], due[i], shop.takeBack(i));
         }
-        CHECKS.equal("takings", 5, shop.takings());
+        CHECKS.equal("takings", 6, shop.takings());
     }
 
     private static void takeBackUpToTheLimit() {
@@ -138,23 +139,24 @@ final class AccountsTest {
         AnagramButcher shop = new AnagramButcher();
         shop.addWord(1);
         long carcass = Checks.word("aaaaaaaaaaaa");
+        int machineThrows = 0;
         for (int i = 0; i < 4000; i++) {
-            expectWritten(() -> shop.cut(carcass, 50));
-            expectWritten(() -> shop.spend(MOST));
-            expectWritten(() -> shop.cutToOrder(carcass, 3));
-            expectWritten(() -> shop.sell(1, MOST));
+            machineThrows += machineThrows(() -> shop.cut(carcass, 50));
+            machineThrows += machineThrows(() -> shop.spend(MOST));
+            machineThrows += machineThrows(() -> shop.cutToOrder(carcass, 3));
+            machineThrows += machineThrows(() -> shop.sell(1, MOST));
         }
+        CHECKS.equal("throws of the machine in long use", 0, machineThrows);
     }
 
-    private static void expectWritten(Checks.Call call) {
-        String got = "no throw of the machine";
+    private static int machineThrows(Checks.Call call) {
         try {
             call.answer();
+        } catch (IllegalStateException written) {
+            return 0;
         } catch (RuntimeException thrown) {
-            if (thrown.getClass() != IllegalStateException.class) {
-                got = thrown.toString();
-            }
+            return 1;
         }
-        CHECKS.equal("a call beyond the limit", "no throw of the machine", got);
+        return 0;
     }
 }

@@ -37,6 +37,8 @@ final class CuttingTest {
         plan(most, "aaaab", 3, "aa", "aa", "b");
         plan(most, "aaa", 3, "a", "aa");
         plan(most, "aaaaaaa", 3, "aa", "aa", "aa");
+        plan(Checks.shop("aa"), "aaaa", 1, "aa");
+        plan(Checks.shop("aa"), "aaaa", 2, "aa", "aa");
         AnagramButcher fewest = Checks.shop("a", "ab", "b", "c", "bc", "abc");
         plan(fewest, "cba", 3, "abc");
         plan(fewest, "cbac", 3, "abc", "c");
@@ -60,6 +62,12 @@ final class CuttingTest {
         plan(new AnagramButcher(), "a", 3);
         plan(Checks.shop("ab", "c"), "aaabd", 3, "ab");
         plan(Checks.shop("aab", "c"), "abd", 3);
+        AnagramButcher shop = Checks.shop("ab", "c");
+        plan(shop, "abc", 3, "ab", "c");
+        plan(shop, "d", 3);
+        shop.cutToOrder(Checks.word("abc"), 3);
+        CHECKS.equal("cutToOrder where no word fits any more", 1, shop.cutToOrder(4, 3));
+        CHECKS.equal("receiptCount of the first order alone", 2, shop.receiptCount());
     }
 
     private static void wrongCalls() {

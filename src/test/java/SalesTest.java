@@ -35,6 +35,11 @@ final class SalesTest {
         // 16, 16, 16, then 17, 19, 20, 22, 24, 25, 27, 28, 30 for 9 down to 1 pieces left
         CHECKS.equal("costOf twelve m", (260 * 5 + 15) / 16, shop.costOf(Checks.word("mmmmmmmmmmmm")));
         CHECKS.equal("costOf m without a remainder", 5, shop.costOf(13));
+        shop.cut(2, 10);
+        shop.setBasePrice(2, 11);
+        CHECKS.equal("costOf b with a remainder of 1", 3, shop.costOf(2));
+        shop.setBasePrice(2, 5);
+        CHECKS.equal("costOf b with a remainder of 15", 1, shop.costOf(2));
     }
 
     private static void missingLetter() {
