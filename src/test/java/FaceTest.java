@@ -22,6 +22,10 @@ final class FaceTest {
         "int takeBack(int)", "int takings()", "int cameIn(int)", "int soldPieces(int)",
     };
 
+    private static final String CONSTANTS = "[public static final int AnagramButcher.MISSING_LETTER, "
+            + "public static final int AnagramButcher.NONE, public static final int AnagramButcher.OVER_BUDGET, "
+            + "public static final int AnagramButcher.UNKNOWN_WORD]";
+
     public static void main(String[] args) {
         CHECKS.equal("NONE", -1, AnagramButcher.NONE);
         CHECKS.equal("UNKNOWN_WORD", 1, AnagramButcher.UNKNOWN_WORD);
@@ -30,8 +34,8 @@ final class FaceTest {
         Class<?> shop = AnagramButcher.class;
         CHECKS.equal("public and final", Modifier.PUBLIC | Modifier.FINAL, shop.getModifiers());
         CHECKS.equal("the constructors", "[public AnagramButcher()]", Arrays.toString(constructors(shop)));
-        CHECKS.equal("the methods", new TreeSet<>(Arrays.asList(METHODS)), methods(shop));
-        CHECKS.equal("the constants", "[MISSING_LETTER, NONE, OVER_BUDGET, UNKNOWN_WORD]", fields(shop).toString());
+        CHECKS.equal("the methods", dueMethods(), methods(shop));
+        CHECKS.equal("the constants", CONSTANTS, fields(shop).toString());
         for (Class<?> inside : shop.getDeclaredClasses()) {
             CHECKS.equal(inside + " is static and not public", true,
                     Modifier.isStatic(inside.getModifiers()) && !Modifier.isPublic(inside.getModifiers()));
@@ -43,13 +47,22 @@ final class FaceTest {
         return shop.getDeclaredConstructors();
     }
 
+    private static Set<String> dueMethods() {
+        Set<String> due = new TreeSet<>();
+        for (String method : METHODS) {
+            due.add("public " + method);
+        }
+        return due;
+    }
+
     private static Set<String> methods(Class<?> shop) {
         Set<String> found = new TreeSet<>();
         for (Method method : shop.getDeclaredMethods()) {
             if (!Modifier.isPrivate(method.getModifiers())) {
                 String parameters = Arrays.stream(method.getParameterTypes()).map(Class::getName)
                         .collect(java.util.stream.Collectors.joining(","));
-                found.add(method.getReturnType() + " " + method.getName() + "(" + parameters + ")");
+                String modifiers = Modifier.toString(method.getModifiers());
+                found.add(modifiers + " " + method.getReturnType() + " " + method.getName() + "(" + parameters + ")");
             }
         }
         return found;
@@ -59,7 +72,7 @@ final class FaceTest {
         Set<String> found = new TreeSet<>();
         for (Field field : shop.getDeclaredFields()) {
             if (!Modifier.isPrivate(field.getModifiers())) {
-                found.add(field.getName());
+                found.add(field.toString());
             }
         }
         return found;
