@@ -7,6 +7,9 @@ final class DictionaryTest {
     private static final int MOST = 99999;
     private static final long TWELVE = Checks.word("abcdefghijkl");
 
+    /** A word that is just before TWELVE and differs from it in the higher 32 bits alone. */
+    private static final String SAME_LOW_BITS = "aacdefghijkl";
+
     public static void main(String[] args) {
         CHECKS.promise(1, "a shop with an empty dictionary", DictionaryTest::newDictionary);
         CHECKS.promise(1, "an empty stock", DictionaryTest::newStock);
@@ -131,7 +134,8 @@ final class DictionaryTest {
                     shop -> shop.addWord(Checks.word(word)));
         }
         AnagramButcher shop = Checks.shop("cat", "abcdefghijkl");
-        String[] others = {"ca", "cats", "act", "abcdefghijk", "bbcdefghijkl", "abcdefghijkm", "fghijkl"};
+        String[] others = {"ca", "cats", "act", "abcdefghijk", SAME_LOW_BITS, "bbcdefghijkl", "abcdefghijkm",
+            "fghijkl"};
         for (int i = 0; i < others.length; i++) {
             CHECKS.equal("addWord of " + others[i] + " beside cat", 3 + i, shop.addWord(Checks.word(others[i])));
         }
@@ -187,7 +191,8 @@ final class DictionaryTest {
     private static void removeWordThatIsNotThere() {
         CHECKS.refused("removeWord from an empty dictionary", NoSuchElementException.class, AnagramButcher::new,
                 shop -> shop.removeWord(1));
-        for (String word : new String[] {"a", "ca", "cats", "act", "cau", "zzzzzzzzzzzz", "fghijkl", "bbcdefghijkl"}) {
+        for (String word : new String[] {"a", "ca", "cats", "act", "cau", "zzzzzzzzzzzz", "fghijkl", SAME_LOW_BITS,
+            "bbcdefghijkl"}) {
             CHECKS.refused("removeWord of " + word, NoSuchElementException.class,
                     () -> Checks.shop("cat", "abcdefghijkl"), shop -> shop.removeWord(Checks.word(word)));
         }
@@ -258,7 +263,8 @@ final class DictionaryTest {
         for (String word : new String[] {"cat", "dog", "z", "abcdefghijkl"}) {
             CHECKS.equal("hasWord of " + word, true, shop.hasWord(Checks.word(word)));
         }
-        for (String word : new String[] {"act", "a", "ca", "cats", "zz", "zzzzzzzzzzzz", "fghijkl", "bbcdefghijkl"}) {
+        for (String word : new String[] {"act", "a", "ca", "cats", "zz", "zzzzzzzzzzzz", "fghijkl", SAME_LOW_BITS,
+            "bbcdefghijkl"}) {
             CHECKS.equal("hasWord of " + word, false, shop.hasWord(Checks.word(word)));
         }
         CHECKS.equal("hasWord in an empty dictionary", false, new AnagramButcher().hasWord(1));
