@@ -5,21 +5,50 @@ import java.lang.reflect.Modifier;
 import java.util.Arrays;
 import java.util.Set;
 import java.util.TreeSet;
+import java.util.stream.Collectors;
 
-/** The public face: just the document's members, and the constants' values. */
+/** The public face: just the document's members, their exceptions, and the constants' values. */
 final class FaceTest {
     private static final Checks CHECKS = new Checks("FaceTest");
 
+    /** The methods, each with its exceptions in the order in which they are thrown. */
     private static final String[] METHODS = {
-        "int addWord(long)", "int removeWord(long)", "int wordCount()", "long wordAt(int)", "boolean hasWord(long)",
-        "int anagramCount(long)", "long anagramAt(long,int)", "int largestAnagramGroup()", "int fittingCount(long)",
-        "long fittingWord(long,int)", "int cut(long,int)", "int stockOf(int)", "int totalStock()",
-        "int setBasePrice(int,int)", "int basePriceOf(int)", "int presentPriceOf(int)", "int weightOf(long)",
-        "int costOf(long)", "int missingLetter(long)", "int refusalOf(long,int)", "int sell(long,int)",
-        "int affordableWords(int)", "long bestWord(int)", "int spend(int)", "int planLength(long,int)",
-        "long planWord(long,int,int)", "int leftoverCount(long,int)", "int cutToOrder(long,int)",
-        "int receiptCount()", "long receiptWord(int)", "int receiptPrice(int)", "boolean isReturned(int)",
-        "int takeBack(int)", "int takings()", "int cameIn(int)", "int soldPieces(int)",
+        "int addWord(long) throws IllegalArgumentException, IllegalStateException",
+        "int removeWord(long) throws IllegalArgumentException, NoSuchElementException",
+        "int wordCount()",
+        "long wordAt(int) throws IndexOutOfBoundsException",
+        "boolean hasWord(long) throws IllegalArgumentException",
+        "int anagramCount(long) throws IllegalArgumentException",
+        "long anagramAt(long,int) throws IllegalArgumentException, IndexOutOfBoundsException",
+        "int largestAnagramGroup()",
+        "int fittingCount(long) throws IllegalArgumentException",
+        "long fittingWord(long,int) throws IllegalArgumentException, IndexOutOfBoundsException",
+        "int cut(long,int) throws IllegalArgumentException, IllegalStateException",
+        "int stockOf(int) throws IllegalArgumentException",
+        "int totalStock()",
+        "int setBasePrice(int,int) throws IllegalArgumentException",
+        "int basePriceOf(int) throws IllegalArgumentException",
+        "int presentPriceOf(int) throws IllegalArgumentException",
+        "int weightOf(long) throws IllegalArgumentException",
+        "int costOf(long) throws IllegalArgumentException, NoSuchElementException",
+        "int missingLetter(long) throws IllegalArgumentException",
+        "int refusalOf(long,int) throws IllegalArgumentException",
+        "int sell(long,int) throws IllegalArgumentException, IllegalStateException",
+        "int affordableWords(int) throws IllegalArgumentException",
+        "long bestWord(int) throws IllegalArgumentException",
+        "int spend(int) throws IllegalArgumentException",
+        "int planLength(long,int) throws IllegalArgumentException",
+        "long planWord(long,int,int) throws IllegalArgumentException, IndexOutOfBoundsException",
+        "int leftoverCount(long,int) throws IllegalArgumentException",
+        "int cutToOrder(long,int) throws IllegalArgumentException, IllegalStateException",
+        "int receiptCount()",
+        "long receiptWord(int) throws IndexOutOfBoundsException",
+        "int receiptPrice(int) throws IndexOutOfBoundsException",
+        "boolean isReturned(int) throws IndexOutOfBoundsException",
+        "int takeBack(int) throws IndexOutOfBoundsException, IllegalStateException",
+        "int takings()",
+        "int cameIn(int) throws IllegalArgumentException",
+        "int soldPieces(int) throws IllegalArgumentException",
     };
 
     private static final String CONSTANTS = "[public static final int AnagramButcher.MISSING_LETTER, "
@@ -59,13 +88,18 @@ final class FaceTest {
         Set<String> found = new TreeSet<>();
         for (Method method : shop.getDeclaredMethods()) {
             if (!Modifier.isPrivate(method.getModifiers())) {
-                String parameters = Arrays.stream(method.getParameterTypes()).map(Class::getName)
-                        .collect(java.util.stream.Collectors.joining(","));
                 String modifiers = Modifier.toString(method.getModifiers());
-                found.add(modifiers + " " + method.getReturnType() + " " + method.getName() + "(" + parameters + ")");
+                String parameters = names(method.getParameterTypes(), ",");
+                String exceptions = names(method.getExceptionTypes(), ", ");
+                found.add(modifiers + " " + method.getReturnType() + " " + method.getName() + "(" + parameters + ")"
+                        + (exceptions.isEmpty() ? "" : " throws " + exceptions));
             }
         }
         return found;
+    }
+
+    private static String names(Class<?>[] types, String between) {
+        return Arrays.stream(types).map(Class::getSimpleName).collect(Collectors.joining(between));
     }
 
     private static Set<String> fields(Class<?> shop) {
